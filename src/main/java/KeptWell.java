@@ -1634,6 +1634,8 @@ public final class KeptWell {
     private static final class Crowd {
         private final Well well;
         private final Walk walk;
+        /** 1 for each way that is told and not barred. */
+        private final Row there = new Row(Well.MOST_WAYS);
         private final Row meets = new Row(Well.MOST_WAYS * Well.MOST_WAYS);
         /** Of each way: its number times FIT; what is left of its part; its beings of the next step. */
         private final Row shares = new Row(Well.MOST_WAYS);
@@ -1645,8 +1647,14 @@ public final class KeptWell {
             this.walk = walk;
         }
 
+        private void seeWhoIsThere() {
+            for (int way = 0; way < Well.MOST_WAYS; way++) {
+                there.put(way, way < well.ways && !well.isBarred(way) ? 1 : 0);
+            }
+        }
+
         private boolean isThere(int way) {
-            return way < well.ways && !well.isBarred(way);
+            return there.at(way) == 1;
         }
 
         private void meetAll() {
@@ -1660,6 +1668,7 @@ public final class KeptWell {
 
         /** STAYS. */
         boolean keepsOthersOut(int way) {
+            seeWhoIsThere();
             for (int other = 0; other < Well.MOST_WAYS; other++) {
                 if (other != way && isThere(other) && !keepsOut(way, other)) {
                     return false;
@@ -1677,6 +1686,7 @@ public final class KeptWell {
 
         /** How many steps changed something. */
         int growSteps(int steps) {
+            seeWhoIsThere();
             meetAll();
             int changes = 0;
             for (int i = 0; i < steps; i++) {
