@@ -41,10 +41,7 @@ public final class PromisesTest {
 
     private static void put(KeptWell x, String text) {
         for (int from = 0; from < text.length(); from += 20) {
-            int[] five = new int[5];
-            for (int i = 0; i < 20 && from + i < text.length(); i++) {
-                five[i / 4] |= text.charAt(from + i) << (24 - 8 * (i % 4));
-            }
+            int[] five = Texts.five(text, from);
             x.feed(five[0], five[1], five[2], five[3], five[4]);
         }
         x.end(text.length());
@@ -233,13 +230,13 @@ public final class PromisesTest {
             "does 0,1 to", "does 0,1 to 3", "does 0,1 to 01", "does 0,1 to 1", "does 0,1 to 2;does 0,1 to 1",
             "does 0;does 0;does 0;", "does 0;does 0;does 0;does 0", "does 0;does 0;does 0;  x", "does 0;does 0;does 0; 1",
             "does 0;;", "; does 0", "does 0.", "does\t0", "does 0, 1 to 1, 1 to 0", "does 0,1 to 2;does 9", "does 0,,1 to 0",
-            "does 0,1 to 0;", "does 0 to 1", "does 0\u00e9", "does 0,any to 0,0 to 2;does 1,any to 2"};
+            "does 0,1 to 0;", "does 0 to 1", "does 0\u00e9", "doesz 0", "does 0, 1 toz 0", "{does 0", "does`0", "does /", "does :", "does 0,any to 0,0 to 2;does 1,any to 2"};
         int[] faults = {0, 3, 4, 5, 5, 5, 5, 0, 0, 0, 7,
             7, 8, 7, 7, 10, 7, 9,
             11, 12, 12, 12, 12,
             21, 21, 23, 22,
             7, 0, 6, 4, 13, 19, 7,
-            14, 7, 6, 21};
+            14, 7, 6, 0, 10, 0, 4, 5, 5, 21};
         KeptWell x = new KeptWell();
         for (int i = 0; i < texts.length; i++) {
             String text = texts[i];
@@ -263,11 +260,15 @@ public final class PromisesTest {
         due("barred", x.mood(0, -1, 1), 1);
         x.acts(3);
         due("not barred", x.mood(0, 0, 1), 0);
+        way(x, "does 1, any to 1; does 1");
+        for (int what = 3; what <= 5; what++) {
+            due("any is each act", x.mood(1, 0, what), 1);
+        }
         refused("mood 2 of two", INDEX, () -> x.mood(0, 2, 2));
         refused("mood -1", INDEX, () -> x.mood(0, -1, 5));
         refused("what 6", SUCH, () -> x.mood(0, 0, 6));
         refused("what -1 of no mood", SUCH, () -> x.mood(0, 9, -1));
-        refused("what 6 of no way", INDEX, () -> x.mood(1, 0, 6));
+        refused("what 6 of no way", INDEX, () -> x.mood(2, 0, 6));
     }
 
     private static void p10Worth() {
@@ -395,7 +396,10 @@ public final class PromisesTest {
         due("just outside", x.in(801, 300, 200, false), false);
         due("kept", x.in(2, 2, 1, true), true);
         due("not above the least", x.in(1, 1, 1, true), false);
+        due("not above the least across", x.in(1, 2, 1, true), false);
+        due("not above the least up", x.in(2, 1, 1, true), false);
         due("a point that is in", x.in(1, 1, 1, false), true);
+        due("two points that are in", x.in(1, 2, 1, false) && x.in(2, 1, 1, false), true);
         due("no act of three", x.count(11), 4);
         KeptWell line = new KeptWell();
         due("a point", line.in(0, 0, 1000, false), true);
@@ -434,6 +438,21 @@ public final class PromisesTest {
         due("one day", x.mild(0, 0, 1, 1), 1);
         due("no day", x.mild(1, 1, 0, 0), 0);
         due("a threat that one does not do", x.mild(0, 0, 1, 0), -1);
+        KeptWell y = new KeptWell();
+        y.bring(0, 0, 4, 0);
+        y.bring(1, 0, 6, 0);
+        y.bring(0, 1, 2, 0);
+        due("as much is no gain, on days of threat neither", y.mild(0, 0, 1, 1), 1);
+        y.bring(0, 1, 3, 0);
+        due("a gain on each day of threat", y.mild(0, 0, 1, 1), -1);
+        y.tomorrow(8, 9);
+        y.bring(0, 0, 0, 0);
+        y.bring(0, 1, -99, 0);
+        y.bring(1, 1, -10, 0);
+        y.bring(1, 0, 50, 0);
+        due("nine days", y.mild(0, 0, 1, 1), 9);
+        y.bring(1, 0, 53, 0);
+        due("ten would be needed", y.mild(0, 0, 1, 1), -1);
         refused("act", INDEX, () -> x.mild(2, 0, 0, 0));
         refused("act", INDEX, () -> x.mild(0, -1, 0, 0));
         refused("act", INDEX, () -> x.mild(0, 0, 2, 0));
@@ -520,6 +539,8 @@ public final class PromisesTest {
         due("a day is judged by what was done ahead", x.judge(3, 1), -1);
         put(x, "\0\3");
         refused("no act", ARGUMENT, () -> x.row());
+        put(x, "\u0003\0");
+        refused("no act ahead", ARGUMENT, () -> x.row());
         due("the row before stays", x.count(7), 3);
         due("used up", x.feed(0, 0, 0, 0, 0), 20);
         x.end(3);
@@ -610,6 +631,18 @@ public final class PromisesTest {
         x.field(1, 0);
         due("0 together", x.grow(3), 0);
         due("0 together", x.beings(0), 993);
+        KeptWell small = new KeptWell();
+        way(small, GOOD);
+        way(small, BAD);
+        small.rounds(1);
+        small.bring(0, 0, -98, 0);
+        small.bring(0, 1, -99, 0);
+        small.bring(1, 0, -99, 0);
+        small.bring(1, 1, -99, 0);
+        small.field(0, 1);
+        small.field(1, 1);
+        due("who fits 0 gets nothing", small.grow(2), 1);
+        due("who fits 0 gets nothing", 10 * small.beings(0) + small.beings(1), 20);
         KeptWell same = new KeptWell();
         way(same, GOOD);
         way(same, GOOD);

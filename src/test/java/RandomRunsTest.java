@@ -219,11 +219,7 @@ public final class RandomRunsTest {
     private String feedAll(String text, String reader) {
         String wrong = call("end", 0);
         for (int from = 0; from < text.length() && wrong == null; from += 20) {
-            int[] five = new int[5];
-            for (int i = 0; i < 20; i++) {
-                int sign = from + i < text.length() ? text.charAt(from + i) : 0;
-                five[i / 4] |= sign << (24 - 8 * (i % 4));
-            }
+            int[] five = Texts.five(text, from);
             wrong = call("feed", five[0], five[1], five[2], five[3], five[4]);
         }
         wrong = wrong != null ? wrong : call("end", text.length());
