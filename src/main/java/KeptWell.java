@@ -1632,6 +1632,8 @@ public final class KeptWell {
 
     /** THE FIELD and those in it. */
     private static final class Crowd {
+        private static final int DEALT_AT_ONCE = 1024;
+
         private final Well well;
         private final Walk walk;
         /** 1 for each way that is told and not barred. */
@@ -1709,15 +1711,28 @@ public final class KeptWell {
             }
             long left = beings;
             for (int way = 0; way < Well.MOST_WAYS; way++) {
-                long part = beings * shares.at(way) / sum;
-                rests.put(way, beings * shares.at(way) % sum);
-                later.put(way, part);
-                left -= part;
+                findPart(way, beings, sum);
+                left -= later.at(way);
             }
             for (int i = 0; i < Well.MOST_WAYS && i < left; i++) {
                 giveToGreatestRest();
             }
             return takeLater();
+        }
+
+        /**
+         * All beings times a share need not fit a long (field() again and again brings some 500000 beings, and these
+         * shares of some 10^15): so they are dealt in two goes, as in a long division by hand.
+         */
+        private void findPart(int way, long beings, long sum) {
+            if (sum <= 0) {
+                return;
+            }
+            long share = shares.at(way);
+            long high = beings / DEALT_AT_ONCE * share;
+            long low = high % sum * DEALT_AT_ONCE + beings % DEALT_AT_ONCE * share;
+            later.put(way, high / sum * DEALT_AT_ONCE + low / sum);
+            rests.put(way, low % sum);
         }
 
         private long fitOf(int way) {

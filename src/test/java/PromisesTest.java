@@ -657,6 +657,35 @@ public final class PromisesTest {
         same.field(2, 1);
         due("of several the lesser number", same.grow(1), 1);
         due("of several the lesser number", 100 * same.beings(0) + 10 * same.beings(1) + same.beings(2), 102);
+        growToTheMost();
+    }
+
+    /** The other ways get next to nothing, so that nearly all beings come to the first one, again and again. */
+    private static void growToTheMost() {
+        KeptWell x = new KeptWell();
+        for (int way = 0; way < 8; way++) {
+            way(x, way == 0 ? GOOD : BAD);
+        }
+        x.rounds(30);
+        x.bring(0, 0, 99, 0);
+        x.bring(0, 1, 99, 0);
+        x.bring(1, 0, -99, 0);
+        x.bring(1, 1, -99, 0);
+        x.field(0, 1000);
+        for (int time = 1; time <= 59; time++) {
+            for (int way = 1; way < 8; way++) {
+                x.field(way, 1000);
+            }
+            due("a change", x.grow(1), 1);
+        }
+        due("all come to one", x.beings(0), 414000);
+        due("none is lost", x.count(8), 414000);
+        x.bring(1, 0, 98, 0);
+        x.field(7, 1000);
+        due("a change", x.grow(1), 1);
+        // by its share it is due 992 and some, and has the greater rest
+        due("one that gets nearly as much", x.beings(7), 993);
+        due("none is lost", x.count(8), 415000);
     }
 
     private static void p34Stays() {

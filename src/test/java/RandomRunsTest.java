@@ -54,7 +54,8 @@ public final class RandomRunsTest {
     }
 
     private String run() {
-        String early = random.nextInt(4) == 0 ? tellDeep() : null;
+        int kind = pick(16);
+        String early = kind < 4 ? tellDeep() : kind == 4 ? growMuch() : null;
         if (early != null) {
             return early;
         }
@@ -90,6 +91,28 @@ public final class RandomRunsTest {
             wrong = feedAll(text.toString(), "way");
         }
         return wrong;
+    }
+
+    /** Beings are put in again and again as others grow, so that there come to be as many as calls can bring. */
+    private String growMuch() {
+        int ways = 2 + pick(7);
+        String wrong = call("rounds", 30 - pick(3));
+        for (int cell = 0; cell < 4 && wrong == null; cell++) {
+            int toFirst = cell == 0 ? 99 - pick(2) : pick(2) == 0 ? -99 + pick(2) : 99 - pick(199);
+            wrong = call("bring", cell / 2, cell % 2, toFirst, 0);
+        }
+        for (int way = 0; way < ways && wrong == null; way++) {
+            wrong = feedAll(way < 2 ? "does " + way : text(), "way");
+        }
+        int untilThen = CALLS - pick(40);
+        while (calls < untilThen && wrong == null) {
+            for (int way = 0; way < own.count(1) && wrong == null; way++) {
+                wrong = own.beings(way) < 1000 ? call("field", way, 1000 - pick(2)) : null;
+            }
+            wrong = wrong != null ? wrong : call("grow", pick(20) == 0 ? 50 : 1);
+            wrong = wrong != null || pick(8) > 0 ? wrong : call("beings", way());
+        }
+        return wrong != null ? wrong : call("count", 8);
     }
 
     private int pick(int below) {
