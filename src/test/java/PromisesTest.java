@@ -1,85 +1,5 @@
-import java.util.NoSuchElementException;
-
 /** Each promise of the document by its number: ordinary calls, the edges it names, and wrong ones. */
-public final class PromisesTest {
-    private static int wrong = 0;
-
-    /** A call that may throw. */
-    private interface Call {
-        long go();
-    }
-
-    private static final Class<?> INDEX = IndexOutOfBoundsException.class;
-    private static final Class<?> ARGUMENT = IllegalArgumentException.class;
-    private static final Class<?> STATE = IllegalStateException.class;
-    private static final Class<?> SUCH = NoSuchElementException.class;
-    private static final Class<?> UNSUPPORTED = UnsupportedOperationException.class;
-
-    private static void due(String what, long got, long want) {
-        if (got != want) {
-            wrong++;
-            System.out.println(what + " answered " + got + ", due is " + want);
-        }
-    }
-
-    private static void due(String what, boolean got, boolean want) {
-        due(what, got ? 1 : 0, want ? 1 : 0);
-    }
-
-    private static void refused(String what, Class<?> by, Call call) {
-        String got;
-        try {
-            got = "answer " + call.go();
-        } catch (RuntimeException e) {
-            got = e.getClass().getName();
-        }
-        if (!got.equals(by.getName())) {
-            wrong++;
-            System.out.println(what + " came to " + got + ", due is " + by.getName());
-        }
-    }
-
-    private static void put(KeptWell x, String text) {
-        for (int from = 0; from < text.length(); from += 20) {
-            int[] five = Texts.five(text, from);
-            x.feed(five[0], five[1], five[2], five[3], five[4]);
-        }
-        x.end(text.length());
-    }
-
-    private static int way(KeptWell x, String text) {
-        put(x, text);
-        return x.way();
-    }
-
-    private static int row(KeptWell x, int... acts) {
-        StringBuilder days = new StringBuilder();
-        for (int act : acts) {
-            days.append((char) act);
-        }
-        put(x, days.toString());
-        return x.row();
-    }
-
-    private static final String GOOD = "does 0";
-    private static final String BAD = "does 1";
-    private static final String MIRROR = "does 0, 1 to 1; does 1, 0 to 0";
-    private static final String GRIM = "does 0, 1 to 1; does 1";
-
-    /** Both 3 for two good ones, 1 for two bad ones, 5 and 0 if just one is bad; ways 0 to 3: good, bad, mirror, grim. */
-    private static KeptWell twoAtTheWell() {
-        KeptWell x = new KeptWell();
-        x.bring(0, 0, 3, 3);
-        x.bring(0, 1, 0, 5);
-        x.bring(1, 0, 5, 0);
-        x.bring(1, 1, 1, 1);
-        way(x, GOOD);
-        way(x, BAD);
-        way(x, MIRROR);
-        way(x, GRIM);
-        return x;
-    }
-
+public final class PromisesTest extends Checks {
     public static void main(String[] args) {
         p1NewObject();
         p2p3Tape();
@@ -106,10 +26,7 @@ public final class PromisesTest {
         p37to39Village();
         p40p41Image();
         p42Count();
-        System.out.println(wrong == 0 ? "all promises hold" : wrong + " answers are not as due");
-        if (wrong != 0) {
-            System.exit(1);
-        }
+        end("all promises hold");
     }
 
     private static void p1NewObject() {
@@ -127,7 +44,7 @@ public final class PromisesTest {
         due("new: FEW", x.village(2), 0);
         due("new: grow", x.grow(50), 0);
         refused("new: beings", INDEX, () -> x.beings(0));
-        refused("new: hold", INDEX, () -> x.hold(0, 0) ? 1 : 0);
+        refused("new: hold", INDEX, () -> x.hold(0, 0));
     }
 
     private static void p2p3Tape() {
@@ -159,13 +76,13 @@ public final class PromisesTest {
 
     private static void p4p5Meeting() {
         KeptWell x = new KeptWell();
-        refused("acts 1", ARGUMENT, () -> { x.acts(1); return 0; });
-        refused("acts 4", ARGUMENT, () -> { x.acts(4); return 0; });
-        refused("bring of act 2 of two", INDEX, () -> { x.bring(2, 0, 1, 1); return 0; });
-        refused("bring for act 2 of two", INDEX, () -> { x.bring(0, 2, 100, 1); return 0; });
-        refused("bring of act -1", INDEX, () -> { x.bring(-1, 0, 1, 1); return 0; });
-        refused("bring 100", ARGUMENT, () -> { x.bring(0, 0, 100, 1); return 0; });
-        refused("bring -100", ARGUMENT, () -> { x.bring(0, 0, 1, -100); return 0; });
+        refused("acts 1", ARGUMENT, () -> x.acts(1));
+        refused("acts 4", ARGUMENT, () -> x.acts(4));
+        refused("bring of act 2 of two", INDEX, () -> x.bring(2, 0, 1, 1));
+        refused("bring for act 2 of two", INDEX, () -> x.bring(0, 2, 100, 1));
+        refused("bring of act -1", INDEX, () -> x.bring(-1, 0, 1, 1));
+        refused("bring 100", ARGUMENT, () -> x.bring(0, 0, 100, 1));
+        refused("bring -100", ARGUMENT, () -> x.bring(0, 0, 1, -100));
         x.bring(1, 1, -99, 99);
         due("bring", x.corner(0, false), -99);
         x.acts(3);
@@ -175,14 +92,14 @@ public final class PromisesTest {
         due("two acts again", x.corner(0, true), 99);
         x.acts(3);
         due("what was told of act 2 stays", x.corner(0, true), -99);
-        refused("bring of act 3", INDEX, () -> { x.bring(3, 0, 1, 1); return 0; });
+        refused("bring of act 3", INDEX, () -> x.bring(3, 0, 1, 1));
     }
 
     private static void p6Tomorrow() {
         KeptWell x = twoAtTheWell();
         int[][] none = {{0, 1}, {0, 2}, {1, 1}, {2, 2}, {3, 2}, {1, 10}, {9, 10}, {-1, 2}, {1, -2}};
         for (int[] pq : none) {
-            refused("tomorrow " + pq[0] + "/" + pq[1], ARGUMENT, () -> { x.tomorrow(pq[0], pq[1]); return 0; });
+            refused("tomorrow " + pq[0] + "/" + pq[1], ARGUMENT, () -> x.tomorrow(pq[0], pq[1]));
         }
         due("nothing changed", x.worth(0, 0, 0, 0, 0, false), 6);
         x.tomorrow(8, 9);
@@ -316,10 +233,10 @@ public final class PromisesTest {
         x.bring(0, 1, 3, 3);
         due("the same holds", x.hold(0, 0), true);
         refused("way", INDEX, () -> x.first(0, 4));
-        refused("way", INDEX, () -> x.hold(-1, 0) ? 1 : 0);
+        refused("way", INDEX, () -> x.hold(-1, 0));
         way(x, "does 2");
         refused("barred", STATE, () -> x.first(4, 0));
-        refused("barred", STATE, () -> x.hold(0, 4) ? 1 : 0);
+        refused("barred", STATE, () -> x.hold(0, 4));
         x.acts(3);
         due("three acts", x.first(4, 4), -1);
         x.bring(2, 1, -1, 1);
@@ -420,7 +337,7 @@ public final class PromisesTest {
         due("above", line.in(0, 5, 1, false), false);
         int[][] none = {{0, 0, 0}, {0, 0, 1001}, {100001, 0, 1}, {-100001, 0, 1}, {0, 100001, 1}, {0, -100001, 1}, {0, 0, -1}};
         for (int[] n : none) {
-            refused("in " + n[0] + " " + n[1] + " " + n[2], ARGUMENT, () -> line.in(n[0], n[1], n[2], false) ? 1 : 0);
+            refused("in " + n[0] + " " + n[1] + " " + n[2], ARGUMENT, () -> line.in(n[0], n[1], n[2], false));
         }
         due("far", line.in(100000, -100000, 1000, true), false);
     }
@@ -491,7 +408,7 @@ public final class PromisesTest {
         KeptWell x = twoAtTheWell();
         int[][] none = {{-1, 2}, {1, 1}, {2, 1}, {0, 0}, {0, 10}, {9, 9}, {0, -1}};
         for (int[] n : none) {
-            refused("mistakes " + n[0] + "/" + n[1], ARGUMENT, () -> { x.mistakes(n[0], n[1]); return 0; });
+            refused("mistakes " + n[0] + "/" + n[1], ARGUMENT, () -> x.mistakes(n[0], n[1]));
         }
         due("without mistakes", x.doubt(2, 2, 0, false, false), 6);
         due("without cost", x.doubt(2, 2, 0, true, false), 0);
@@ -607,12 +524,12 @@ public final class PromisesTest {
         x.field(0, 0);
         due("alone", x.grow(50), 0);
         due("alone", x.beings(1), 10);
-        refused("way", INDEX, () -> { x.field(4, 0); return 0; });
-        refused("number", ARGUMENT, () -> { x.field(0, -1); return 0; });
-        refused("number", ARGUMENT, () -> { x.field(0, 1001); return 0; });
+        refused("way", INDEX, () -> x.field(4, 0));
+        refused("number", ARGUMENT, () -> x.field(0, -1));
+        refused("number", ARGUMENT, () -> x.field(0, 1001));
         refused("beings", INDEX, () -> x.beings(4));
-        refused("rounds", ARGUMENT, () -> { x.rounds(0); return 0; });
-        refused("rounds", ARGUMENT, () -> { x.rounds(31); return 0; });
+        refused("rounds", ARGUMENT, () -> x.rounds(0));
+        refused("rounds", ARGUMENT, () -> x.rounds(31));
         refused("steps", ARGUMENT, () -> x.grow(-1));
         refused("steps", ARGUMENT, () -> x.grow(51));
         refused("meet", INDEX, () -> x.meet(0, 4));
@@ -702,8 +619,8 @@ public final class PromisesTest {
         due("as much, and more against that one", y.stays(0), true);
         way(y, "does 2");
         due("against one that is barred", y.stays(0), true);
-        refused("barred", STATE, () -> y.stays(2) ? 1 : 0);
-        refused("way", INDEX, () -> y.stays(3) ? 1 : 0);
+        refused("barred", STATE, () -> y.stays(2));
+        refused("way", INDEX, () -> y.stays(3));
     }
 
     private static void p35All() {
