@@ -294,6 +294,8 @@ public final class Boundaries07To09Test extends Checks {
     @Says("or of more figures;")
     static void p08_aNumberOfMoreFigures() {
         wrongAt(5, "does 10");
+        wrongAt(5, "does 09");
+        wrongAt(5, "does 90");
         wrongAt(5, "does 00 x");
         wrongAt(7, "does 0,00 to 0");
         wrongAt(7, "does 0,12 to 0");
@@ -309,11 +311,19 @@ public final class Boundaries07To09Test extends Checks {
         wrongAt(0, "do 0");
         wrongAt(0, "doe 0");
         wrongAt(0, "doess 0");
+        wrongAt(0, "goes 0");
+        wrongAt(0, "dogs 0");
+        wrongAt(0, "doet 0");
         wrongAt(0, "any 0");
         wrongAt(0, "to 0");
         wrongAt(0, "Does 0");
         wrongAt(0, "doeS 0");
         wrongAt(7, "does 0,an to 0");
+        wrongAt(7, "does 0,bny to 0");
+        wrongAt(7, "does 0,amy to 0");
+        wrongAt(7, "does 0,anz to 0");
+        wrongAt(9, "does 0,1 so 0");
+        wrongAt(9, "does 0,1 tp 0");
         wrongAt(7, "does 0,anyy to 0");
         wrongAt(7, "does 0,does to 0");
         wrongAt(7, "does 0,to 0");

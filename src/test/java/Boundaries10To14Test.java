@@ -117,6 +117,21 @@ public final class Boundaries10To14Test extends Checks {
     }
 
     @Says("IndexOutOfBoundsException: there is no such person, ACT, WAY, MOOD,")
+    static void p10_aWayThatIsNoMoreIsNone() {
+        KeptWell x = twoAtTheWell();
+        x.image();
+        ways(x, GOOD, BAD, GOOD, BAD);
+        x.worth(7, 0, 4, 0, 0, false);
+        // ALL WAYS are looked at, and none of them is a WAY of the meeting
+        x.all(0, 0);
+        refused("WAY 8", INDEX, () -> x.worth(8, 0, 0, 0, 0, false));
+        refused("the other WAY 8", INDEX, () -> x.worth(0, 0, 8, 0, 0, false));
+        x.back();
+        refused("WAY 4 after back", INDEX, () -> x.worth(4, 0, 0, 0, 0, false));
+        refused("the other WAY 7 after back", INDEX, () -> x.worth(0, 0, 7, 0, 0, false));
+    }
+
+    @Says("IndexOutOfBoundsException: there is no such person, ACT, WAY, MOOD,")
     static void p10_noSuchWayMoodOrPerson() {
         int[] none = {-1, 4, FAR[0], FAR[1]};
         for (int n : none) {
@@ -362,6 +377,21 @@ public final class Boundaries10To14Test extends Checks {
         due("good for ever, in MOOD 1", x.best(1, 2, 1), 0);
     }
 
+    @Says("of several ACTS the least, MOOD by MOOD.")
+    static void p13_actTwoCountsAmongThreeAlone() {
+        KeptWell x = threeThatStay();
+        way(x, "does 0; does 1");
+        x.bring(2, 0, 9, 0);
+        x.bring(2, 1, 8, 0);
+        due("of three", x.best(0, 1, 0), 2);
+        due("of three, in MOOD 1", x.best(0, 1, 1), 2);
+        x.acts(2);
+        due("of two", x.best(0, 1, 0), 0);
+        due("of two, in MOOD 1", x.best(0, 1, 1), 0);
+        x.bring(1, 1, 1, 0);
+        due("of two, in MOOD 1", x.best(0, 1, 1), 1);
+    }
+
     @Says("BEST ANSWER of person 0 or 1 to a WAY of the other one:")
     static void p13_personOneAnswersAWayOfPersonZero() {
         KeptWell x = game(0, 0, 0, 7, 7, 0, 0, 0);
@@ -451,6 +481,32 @@ public final class Boundaries10To14Test extends Checks {
         // good in MOOD 1: 0 and a half of 10; bad: 1 and a half of itself
         dueAnswer("from MOOD 1 on", x, 0, 4, 1, 5, 1);
         due("in MOOD 1", x.best(0, 4, 1), 0);
+    }
+
+    @Says("What that is worth from this MOOD on.")
+    static void p14_actTwoCountsAmongThreeAlone() {
+        KeptWell x = threeThatStay();
+        way(x, GOOD);
+        x.bring(0, 0, -7, 0);
+        x.bring(1, 0, -8, 0);
+        x.bring(2, 0, 9, 0);
+        dueAnswer("of three", x, 0, 1, 0, 18, 1);
+        x.acts(2);
+        dueAnswer("of two", x, 0, 1, 0, -14, 1);
+        x.acts(3);
+        dueAnswer("of three again", x, 0, 1, 0, 18, 1);
+    }
+
+    @Says("IndexOutOfBoundsException: there is no such person, ACT, WAY, MOOD,")
+    static void p14_aWayThatIsNoMoreIsNone() {
+        KeptWell x = twoAtTheWell();
+        x.all(0, 0);
+        refused("WAY 8", INDEX, () -> x.answer(0, 8, 0, false));
+        x.image();
+        way(x, GOOD);
+        x.answer(0, 4, 0, false);
+        x.back();
+        refused("WAY 4 after back", INDEX, () -> x.answer(0, 4, 0, false));
     }
 
     @Says("IndexOutOfBoundsException: there is no such person, ACT, WAY, MOOD,")

@@ -107,6 +107,64 @@ public final class Boundaries15To22Test extends Checks {
         dueLots("two of three", z, 0, 2, 3);
     }
 
+    /** Three ACTS each: of nine pairs in a row, by the one's own ACT first, what it gets; the other one gets 0. */
+    private static KeptWell gameOf(int person, int... gets) {
+        KeptWell x = three();
+        for (int cell = 0; cell < 9; cell++) {
+            if (person == 0) {
+                x.bring(cell / 3, cell % 3, gets[cell], 0);
+            } else {
+                x.bring(cell % 3, cell / 3, 0, gets[cell]);
+            }
+        }
+        return x;
+    }
+
+    @Says({"By LOTS: the other one draws its ACT by chances:", "the value of the game in which it wants least and the person most: a FRACTION."})
+    static void p16_someOrAllOfThreeActs() {
+        // by which ACTS of both: 0 0; 2 0; 0 2 against 1 2; 0 2 against 0 2; 1 0; 1 2 against 0 1; 0 1 against 1 2;
+        // 0 1 against 0 2; 1 2 against 1 2; 0 2 against 0 1; 0 1 against 0 1; 1 2 against 0 2; all
+        int[][] games = {{-1, 2, 7, -9, 5, -2, -8, -4, -6}, {-5, -5, -9, -9, -3, -3, -4, -4, 0},
+            {1, -3, 8, -3, -4, -3, 3, 0, -9}, {2, 4, -4, -5, -1, -7, 1, 0, 9}, {-9, 1, -7, 0, 2, 0, 6, 1, -4},
+            {-3, -6, -2, 5, 2, 7, 2, 7, -1}, {5, -6, 9, 2, 0, -8, 4, -7, -3}, {1, 0, -4, -7, -5, 0, 6, -4, -8},
+            {-5, 5, -4, 7, 5, 6, 1, 6, -1}, {0, 6, 3, -5, -6, 3, 8, -4, 6}, {4, -2, 6, 0, 6, 3, 3, -4, -1},
+            {-5, 6, -9, -6, 5, -2, 0, -8, -5}, {8, -2, -1, -7, 8, -2, -1, 0, 7}};
+        int[][] due = {{-1, 1}, {-4, 1}, {-27, 20}, {11, 7}, {0, 1}, {31, 8}, {-48, 23}, {-7, 3}, {41, 8}, {8, 3}, {2, 1},
+            {-10, 3}, {338, 271}};
+        for (int i = 0; i < games.length; i++) {
+            dueLots("game " + i, gameOf(0, games[i]), 0, due[i][0], due[i][1]);
+            dueLots("game " + i + " of person 1", gameOf(1, games[i]), 1, due[i][0], due[i][1]);
+        }
+    }
+
+    @Says("the value of the game in which it wants least and the person most: a FRACTION.")
+    static void p16_noChanceIsBelowZero() {
+        int[] worse = {-2, 0, 0};
+        int[] better = {-1, 0, 0};
+        for (int one = 0; one < 3; one++) {
+            for (int other = 0; other < 3; other++) {
+                if (one != other) {
+                    int[] gets = {-9, -9, -9, -9, -9, -9, -9, -9, -9};
+                    System.arraycopy(worse, 0, gets, 3 * one, 3);
+                    System.arraycopy(better, 0, gets, 3 * other, 3);
+                    dueLots("ACT " + other + " ahead of " + one, gameOf(0, gets), 0, -1, 1);
+                    dueLots("ACT " + other + " ahead of " + one + " of person 1", gameOf(1, gets), 1, -1, 1);
+                }
+            }
+        }
+    }
+
+    @Says("LEAST by LOTS, above or below.")
+    static void p16_askedAgainAfterOtherNumbers() {
+        KeptWell x = game(9, -7, 9, -7, 9, -8, 9, -8);
+        dueLots("much", x, 0, 9, 1);
+        dueLots("person 1: little", x, 1, -8, 1);
+        dueLots("much again", x, 0, 9, 1);
+        x.bring(0, 0, -9, 0);
+        x.bring(1, 0, -9, 0);
+        dueLots("less now", x, 0, -9, 1);
+    }
+
     @Says("IndexOutOfBoundsException: there is no such person,")
     static void p16_noSuchPerson() {
         int[] none = {-1, 2, FAR[0], FAR[1]};
@@ -197,6 +255,17 @@ public final class Boundaries15To22Test extends Checks {
         dueCorners("three", game(0, 0, 3, -9, 0, 0, 3, 9), point(0, 0), point(3, -9), point(3, 9));
     }
 
+    @Says("CORNERS: from that of the least across (of several the least up) on,")
+    static void p18_theFirstCornerMayBeOfAnyPair() {
+        for (int cell = 0; cell < 9; cell++) {
+            KeptWell x = three();
+            x.bring(cell / 3, cell % 3, -1, 5);
+            dueCorners("pair " + cell, x, point(-1, 5), point(0, 0));
+            x.bring((cell + 4) % 9 / 3, (cell + 4) % 3, -1, 4);
+            dueCorners("pair " + cell + " above another", x, point(-1, 4), point(0, 0), point(-1, 5));
+        }
+    }
+
     @Says("points within a side are none;")
     static void p18_pointsWithinASideAreNone() {
         dueCorners("eight round and one within",
@@ -206,6 +275,8 @@ public final class Boundaries15To22Test extends Checks {
         dueCorners("a point within", game(0, 0, 9, 0, 0, 9, 2, 2), point(0, 0), point(9, 0), point(0, 9));
         // a hair off the side is a corner
         dueCorners("next to a side", game(0, 0, 98, 97, 49, 48, 0, 99), point(0, 0), point(49, 48), point(98, 97), point(0, 99));
+        dueCorners("nearer there is none", game(0, 0, 98, 97, 97, 96, 0, 99), point(0, 0), point(97, 96), point(98, 97), point(0, 99));
+        dueCorners("as near within", game(0, 0, 98, 97, 1, 1, 0, 99), point(0, 0), point(98, 97), point(0, 99));
     }
 
     @Says({"THE BODY: the least convex body that has what all pairs of ACTS bring (person 0 across, 1 up):"})
@@ -213,6 +284,8 @@ public final class Boundaries15To22Test extends Checks {
         KeptWell x = three(4, 16, -4, 16, 3, 9, -3, 9, 2, 4, -2, 4, 1, 1, -1, 1, 0, 0);
         dueCorners("nine", x, point(-4, 16), point(-3, 9), point(-2, 4), point(-1, 1), point(0, 0), point(1, 1), point(2, 4),
                 point(3, 9), point(4, 16));
+        due("on the side from the last to the first", x.in(0, 16, 1, false), true);
+        due("above it", x.in(0, 16001, 1000, false), false);
         x.acts(2);
         // 4 16, -4 16, -3 9 and 2 4 alone
         dueCorners("of two ACTS", x, point(-4, 16), point(-3, 9), point(2, 4), point(4, 16));
@@ -265,6 +338,32 @@ public final class Boundaries15To22Test extends Checks {
             due("left of it", sides[i].in(2 * x - y, 2 * y + x, 4, false), false);
             due("right of it", sides[i].in(2 * x + y, 2 * y - x, 4, false), false);
         }
+    }
+
+    @Says("is in it, on its border too.")
+    static void p19_inATriangleAndInSidesFarFromZero() {
+        KeptWell x = game(0, 0, 98, 97, 0, 99, 0, 0);
+        due("within", x.in(49, 60, 1, false), true);
+        due("on the side", x.in(49, 97, 2, false) && x.in(98, 97, 1, false), true);
+        due("a hair above the lower side", x.in(1, 1, 1, false), true);
+        due("a hair below it", x.in(97, 96, 1, false), false);
+        KeptWell falling = game(-7, 9, -3, 5, -7, 9, -3, 5);
+        due("its first end", falling.in(-7, 9, 1, false), true);
+        due("its last end", falling.in(-3, 5, 1, false), true);
+        due("within", falling.in(-5, 7, 1, false), true);
+        due("beyond the first", falling.in(-7001, 9001, 1000, false), false);
+        due("beyond the last", falling.in(-2999, 4999, 1000, false), false);
+        KeptWell rising = game(3, -9, 7, -5, 3, -9, 7, -5);
+        due("its first end", rising.in(3, -9, 1, false), true);
+        due("its last end", rising.in(7, -5, 1, false), true);
+        due("beyond the first", rising.in(2999, -9001, 1000, false), false);
+        due("beyond the last", rising.in(7001, -4999, 1000, false), false);
+        KeptWell upright = game(4, -9, 4, -5, 4, -9, 4, -5);
+        due("its upper end", upright.in(4, -5, 1, false), true);
+        due("above it", upright.in(4000, -4999, 1000, false), false);
+        KeptWell high = game(4, 9, 4, 5, 4, 9, 4, 5);
+        due("its lower end", high.in(4, 5, 1, false), true);
+        due("below it", high.in(4000, 4999, 1000, false), false);
     }
 
     @Says("KEPT: it is in it, and each coordinate is above the LEAST by ACTS.")
@@ -384,6 +483,17 @@ public final class Boundaries15To22Test extends Checks {
         due("both need one", x.mild(0, 0, 1, 1), 1);
         x.bring(1, 0, 5, 0);
         due("person 0 needs two", x.mild(0, 0, 1, 1), 2);
+    }
+
+    @Says("when just one did otherwise:")
+    static void p20_whoDoesTheSameDoesNotOtherwise() {
+        // the threat brings person 0 more than KEEP, and each other ACT next to nothing; person 1 gains 1 at once
+        KeptWell x = game(0, 3, -50, 4, -50, 0, 5, 1);
+        due("ACT 0 is kept", x.mild(0, 0, 1, 1), 1);
+        KeptWell y = game(5, 1, -50, 0, -50, 4, 0, 3);
+        due("ACT 1 is kept", y.mild(1, 1, 0, 0), 1);
+        KeptWell z = game(3, 0, 0, -50, 4, -50, 1, 5);
+        due("the same with persons changed", z.mild(0, 0, 1, 1), 1);
     }
 
     @Says("(KEEP), and one for threat:")
@@ -508,6 +618,11 @@ public final class Boundaries15To22Test extends Checks {
         due("4 and 1", y.together(), 1);
         y.bring(1, 0, 3, 3);
         due("3 and 3", y.together(), 8);
+        // by thirds each WORTH is three halves of a day's
+        y.tomorrow(1, 3);
+        due("3 and 3 by thirds", y.together(), 8);
+        y.bring(1, 0, 2, 2);
+        due("4 and 1 by thirds", y.together(), 1);
         // from MOODS 0: what a later MOOD brings counts less
         KeptWell z = game(1, 1, 0, 0, 0, 0, 3, 3);
         ways(z, "does 0, any to 1; does 1", BAD, "does 1, any to 1; does 0");
@@ -540,6 +655,13 @@ public final class Boundaries15To22Test extends Checks {
         due("with three ACTS", x.together(), 0);
         x.acts(2);
         due("with two ACTS", x.together(), 18);
+        x.acts(3);
+        x.bring(2, 2, 0, 0);
+        x.bring(2, 0, 9, 9);
+        x.bring(0, 2, 8, 9);
+        due("one that is BARRED with two", x.together(), 1);
+        x.acts(2);
+        due("one of two BARRED", x.together(), 18);
         KeptWell y = new KeptWell();
         way(y, "does 2");
         due("BARRED ones alone", y.together(), -1);

@@ -142,12 +142,39 @@ public final class Boundaries23To28Test extends Checks {
         refused("no person, three ACTS", INDEX, () -> y.doubt(0, 0, 2, false, false));
     }
 
+    @Says("what is to be awaited, from MOODS 0: a FRACTION.")
+    static void p24_throughAllFourPairsOfMoods() {
+        KeptWell x = twoAtTheWell();
+        x.mistakes(1, 3);
+        dueDoubt("two mirrors, 1 / 2 and 1 / 3", x, 2, 2, 0, false, 462, 85);
+        dueDoubt("a mirror and a grim one", x, 2, 3, 0, false, 129, 26);
+        dueDoubt("a mirror and a grim one, to the grim one", x, 2, 3, 1, false, 72, 13);
+        dueDoubt("its COST", x, 2, 3, 1, true, 6, 13);
+        x.tomorrow(3, 4);
+        x.mistakes(1, 9);
+        dueDoubt("two mirrors, 3 / 4 and 1 / 9", x, 2, 2, 1, false, 3228, 295);
+        dueDoubt("a mirror and a grim one", x, 2, 3, 0, false, 4807, 516);
+        dueDoubt("a mirror and a grim one, to the grim one", x, 2, 3, 1, false, 1343, 129);
+        KeptWell y = game(1, 0, 2, -5, 3, 0, 4, 7);
+        ways(y, "does 0, any to 1; does 1, 0 to 0", "does 1, 0 to 1; does 0, 0 to 1, 1 to 0");
+        y.tomorrow(2, 3);
+        y.mistakes(1, 4);
+        dueDoubt("2 / 3 and 1 / 4", y, 0, 1, 0, false, 649, 82);
+        dueDoubt("2 / 3 and 1 / 4, to person 1", y, 0, 1, 1, false, -239, 82);
+        y.tomorrow(3, 5);
+        y.mistakes(2, 3);
+        dueDoubt("3 / 5 and 2 / 3", y, 0, 1, 0, false, 603, 92);
+        dueDoubt("3 / 5 and 2 / 3, to person 1", y, 0, 1, 1, false, -95, 92);
+    }
+
     @Says("a FRACTION.")
     static void p24_theLongestFraction() {
         KeptWell x = game(99, -99, -98, 99, 97, -99, -99, 98);
         ways(x, "does 0, 0 to 1; does 1, 1 to 0", "does 1, 1 to 1; does 0, 0 to 0");
         x.tomorrow(8, 9);
         x.mistakes(4, 9);
+        dueDoubt("to person 0", x, 0, 1, 0, false, -5825826, 52633);
+        dueDoubt("to person 1", x, 0, 1, 1, false, 5676579, 52633);
         long up = x.doubt(0, 1, 0, false, false);
         long down = x.doubt(0, 1, 0, false, true);
         long worthUp = x.worth(0, 0, 1, 0, 0, false);
@@ -345,6 +372,18 @@ public final class Boundaries23To28Test extends Checks {
         x.acts(2);
         row(x, 0, 0);
         due("a ROW without it", x.judge(0, 0), -1);
+    }
+
+    @Says("or the ROW has ACTS that are none now.")
+    static void p26_bytesBehindTheRowAreNoActsOfIt() {
+        KeptWell x = twoAtTheWell();
+        x.feed(0x00000202, 0x02020202, 0x02020202, 0x02020202, 0x02020202);
+        x.end(2);
+        due("a ROW of one day", x.row(), 1);
+        due("JUDGED", x.judge(0, 0), -1);
+        row(x, 0, 0, 2, 2);
+        row(x, 0, 0);
+        due("behind a longer ROW", x.judge(0, 0), -1);
     }
 
     @Says({"IndexOutOfBoundsException: there is no such person, ACT, WAY,", "Of several exceptions the one told first is thrown;"})

@@ -350,6 +350,23 @@ public final class Boundaries29To36Test extends Checks {
         x.acts(2);
         way(x, GOOD);
         due("against one that does the same", x.stays(0), false);
+        due("the same the other way round", x.stays(2), false);
+    }
+
+    @Says("STAYS of a WAY: against each other one that is not BARRED:")
+    static void p34_eachOtherOneCounts() {
+        for (int one = 0; one < 8; one++) {
+            for (int other = 0; other < 8; other++) {
+                KeptWell x = game(0, 0, 0, 0, 1, 0, 0, 0);
+                for (int i = 0; i < 8; i++) {
+                    // the others get less against themselves, and nothing more against that one
+                    way(x, i == one ? GOOD : i == other ? BAD : "does 2");
+                }
+                due("WAY " + one + " against WAY " + other, x.stays(one), one == other);
+                x.bring(1, 0, -1, 0);
+                due("WAY " + one + " against WAY " + other + " that gets less", x.stays(one), true);
+            }
+        }
     }
 
     @Says({"IllegalStateException.", "IllegalStateException: a WAY is BARRED,"})
@@ -412,6 +429,24 @@ public final class Boundaries29To36Test extends Checks {
         KeptWell x = game(1, 0, 0, 0, 0, 0, 1, 0);
         way(x, BAD);
         dueAll("person 1 gets nothing", x, 0, 16, 64, 0, 3);
+    }
+
+    @Says("ALL WAYS of two MOODS, with 2 ACTS:")
+    static void p35_allWaysAreNoWaysOfTheMeeting() {
+        KeptWell x = twoAtTheWell();
+        ways(x, GRIM, MIRROR, "does 2", "does 1, any to 1; does 0, 1 to 2; does 1, 2 to 0");
+        for (int what = 0; what < 4; what++) {
+            x.all(7, what);
+        }
+        due("WAYS", x.count(1), 8);
+        due("MOODS of the last one", x.mood(7, 0, 0), 3);
+        int[] last = {1, 1, 1, 1, 0, 1, 2, 1, 1, 2, 2, 0};
+        for (int i = 0; i < 12; i++) {
+            due("the last one, " + i, x.mood(7, i / 4, 2 + i % 4), last[i]);
+        }
+        due("MOODS of the first one", x.mood(0, 0, 0), 1);
+        refused("there is no WAY 8", INDEX, () -> x.mood(8, 0, 0));
+        refused("there is no WAY 8", INDEX, () -> x.all(8, 0));
     }
 
     @Says({"IllegalStateException (also with 3 ACTS);", "IllegalStateException: a WAY is BARRED,"})
@@ -493,6 +528,12 @@ public final class Boundaries29To36Test extends Checks {
         x.bring(0, 0, 1, 0);
         ways(x, "does 0, 2 to 1; does 1, 2 to 2; does 2, 2 to 0", "does 0, any to 1; does 1, any to 2; does 2, any to 0");
         due("510 / 511", x.begin(0, 1), 1);
+        // on the ninth day 99 is lost, and then all begins again: 99 times 510 / 511
+        x.bring(0, 0, 0, 0);
+        x.bring(2, 2, -99, 0);
+        due("on the ninth day", x.begin(0, 1), 99);
+        x.bring(2, 2, 0, -99);
+        due("person 1 on the ninth day", x.begin(0, 1), 99);
         KeptWell y = game(99, 0, 0, 0, 0, 0, -99, 0);
         way(y, "does 0, any to 1; does 1");
         due("198", y.begin(0, 0), 198);

@@ -106,8 +106,8 @@ public final class RandomRunsTest {
         }
         int untilThen = CALLS - pick(40);
         while (calls < untilThen && wrong == null) {
-            for (int way = 0; way < own.count(1) && wrong == null; way++) {
-                wrong = own.beings(way) < 1000 ? call("field", way, 1000 - pick(2)) : null;
+            for (int way = 0; way < due.count(1) && wrong == null; way++) {
+                wrong = due.beings(way) < 1000 ? call("field", way, 1000 - pick(2)) : null;
             }
             wrong = wrong != null ? wrong : call("grow", pick(20) == 0 ? 50 : 1);
             wrong = wrong != null || pick(8) > 0 ? wrong : call("beings", way());
@@ -251,7 +251,7 @@ public final class RandomRunsTest {
     }
 
     private int way() {
-        int ways = own.count(1);
+        int ways = due.count(1);
         return ways == 0 ? near(0, 0) : near(0, ways - 1);
     }
 

@@ -2,7 +2,8 @@ import java.lang.management.ManagementFactory;
 
 /** No call makes objects that stay or pass: all rows are made with the object. */
 public final class RoomTest {
-    private static final int CALLS = 512;
+    /** With those that make the object ready, and those that come by twos, some 500 calls. */
+    private static final int CALLS = 384;
 
     public static void main(String[] args) {
         com.sun.management.ThreadMXBean bean = (com.sun.management.ThreadMXBean) ManagementFactory.getThreadMXBean();
