@@ -96,6 +96,32 @@ public final class Boundaries01To06Test extends Checks {
         due("feed", x.feed(0, 0, 0, 0, 0), 20);
     }
 
+    @Says("An object is used for at most 512 calls after it has been made;")
+    static void p01_anObjectAnswersFor512Calls() {
+        KeptWell x = game(0, 0, 5, -99, 99, 7, 3, 4);
+        for (int call = 4; call < 510; call += 2) {
+            due("feed", x.feed(0, 0, 0, 0, 0), 20);
+            due("ROW", x.row(), 10);
+        }
+        x.bring(0, 0, 9, -9);
+        due("BROUGHT at call 512", x.brought(1), -90);
+        KeptWell y = twoAtTheWell();
+        for (int call = 18; call < 510; call += 2) {
+            y.image();
+            due("back", y.back(), true);
+        }
+        due("TOGETHER", y.together(), 9);
+        due("ALL WAYS at call 512", y.all(1, 0), 16);
+    }
+
+    @Says("A MEETING: persons 0 and 1,")
+    static void p01_whatIsToldOfOneMeetingIsNotToldOfAnother() {
+        KeptWell x = full();
+        KeptWell y = new KeptWell();
+        dueText("a new object beside one of which all was told", Looks.all(y), Looks.all(new KeptWell()));
+        dueText("one of which all was told beside a new one", Looks.all(x), Looks.all(full()));
+    }
+
     // ---- promise 2: feed ----
 
     @Says("Twenty bytes come behind the TAPE,")

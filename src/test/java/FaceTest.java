@@ -25,12 +25,45 @@ public final class FaceTest {
     public static void main(String[] args) throws Exception {
         String document = Files.readString(Path.of("../shared/DOC.md"));
         String source = Files.readString(Path.of("src/main/java/KeptWell.java"));
+        classIsAsTold();
         faceIsAsTold(document);
+        promisesAreOfTheFace(document);
         languageIsKept(source);
         System.out.println(wrong == 0 ? "the face is as told" : wrong + " things are not as due");
         if (wrong != 0) {
             System.exit(1);
         }
+    }
+
+    /** public final class KeptWell, its one constant, and no method without an object. */
+    private static void classIsAsTold() throws IllegalAccessException, NoSuchFieldException {
+        due("the class", Modifier.toString(KeptWell.class.getModifiers()), "public final");
+        due("the class stands in no package", KeptWell.class.getPackageName(), "");
+        due("above the class stands", KeptWell.class.getSuperclass().getName(), "java.lang.Object");
+        due("parts that the class has", KeptWell.class.getInterfaces().length, 0);
+        Field none = KeptWell.class.getDeclaredField("NONE");
+        due("NONE", Modifier.toString(none.getModifiers()) + " " + none.getType(), "public static final int");
+        due("NONE is", none.getInt(null), -1);
+        for (Method method : KeptWell.class.getDeclaredMethods()) {
+            if (Modifier.isPublic(method.getModifiers())) {
+                due(method.getName() + " is", Modifier.toString(method.getModifiers()), "public");
+            }
+        }
+    }
+
+    /** The head of each promise is a row of the face: so what holds for the face holds for the promise. */
+    private static void promisesAreOfTheFace(String document) {
+        String face = document.substring(document.indexOf("public final class"), document.indexOf("## Terms"));
+        Matcher m = Pattern.compile("## Promise (\\d+): (.*)\n\n`([^`]*)`").matcher(document);
+        int many = 0;
+        while (m.find()) {
+            many++;
+            due("promise " + m.group(1) + " is the next", m.group(1), "" + many);
+            due("promise " + many + " is a row of the face", face.contains("public " + m.group(3) + ";"), true);
+            String name = m.group(3).replaceAll("\\(.*", "").replaceAll(".* ", "");
+            due("promise " + many + " tells", many == 1 ? "KeptWell" : m.group(2), name);
+        }
+        due("promises", many, 42);
     }
 
     private static void faceIsAsTold(String document) {

@@ -97,9 +97,10 @@ public final class SentencesTest extends Checks {
         }
     }
 
-    /** Sections 1 to 6 and what stands behind them, without what marks sections and rows. */
+    /** Ahead of the face how long an object is used; sections 1 to 6 and what stands behind them, without marks. */
     private static Part terms(String document) {
-        String all = document.substring(document.indexOf("## Terms") + 8, document.indexOf("## Promise 1:"));
+        String all = document.substring(document.indexOf("An object is used"), document.indexOf("; what later calls") + 1)
+                + document.substring(document.indexOf("## Terms") + 8, document.indexOf("## Promise 1:"));
         return new Part(all.replaceAll("==== \\d\\.", "").replaceAll("```(text)?", ""));
     }
 
